@@ -564,7 +564,6 @@ public final class GraphCompare {
 
         /** All things that come in are in one class until they are split. */
         void enter(int thing, int code) {
-            count = 1;
             classOf[thing] = 0;
             addCode(thing, code);
         }
@@ -948,10 +947,7 @@ public final class GraphCompare {
         private final int[] secondNets = new int[NETS];
 
         Match() {
-            Arrays.fill(firstDevices, NONE);
-            Arrays.fill(secondDevices, NONE);
-            Arrays.fill(firstNets, NONE);
-            Arrays.fill(secondNets, NONE);
+            forget();
         }
 
         void forget() {
@@ -1054,7 +1050,6 @@ public final class GraphCompare {
         }
 
         void list(Designs designs, Classes classes) {
-            forget();
             listKinds(designs);
             listNets(designs);
             listNames(designs);

@@ -19,6 +19,8 @@ public final class PromisesTest {
         runs();
         searches();
         limitsOfTries();
+        fullSides();
+        longChains();
         matches();
         netMatches();
         differences();
@@ -293,6 +295,59 @@ public final class PromisesTest {
             Check.same("8: next to nothing", 1, z.join(side, 1));
         }
         Check.same("8: sizes of 0 agree", 1, z.run(1));
+        joinedSizes();
+    }
+
+    /** What a pair of two sizes comes to, by each rule, against a device of that size. */
+    private static void joinedSizes() {
+        double[][] rows = {
+            {0, 0.5, 0.25, 0.75}, {1, 0.5, 1.0, 1.0 / 3.0}, {1, 4.0, 4.0, 2.0},
+            {1, 0.1, 0.2, 1.0 / (1.0 / 0.1 + 1.0 / 0.2)},
+            {1, 0.2, 0.05, 1.0 / (1.0 / 0.2 + 1.0 / 0.05)}, {0, 0.1, 0.2, 0.1 + 0.2},
+            {0, 400000.0, 600000.0, 1000000.0},
+        };
+        for (double[] row : rows) {
+            GraphCompare x = withNets(3);
+            x.swap(5, 0, 1);
+            add(x, 0, 5, row[1], 0, 1);
+            add(x, 0, 5, row[2], 1, row[0] == 0 ? 0 : 2);
+            add(x, 1, 5, row[3], 0, 1);
+            Check.same("8: two become one", 1, x.join(0, (int) row[0]));
+            Check.same("8: of size " + row[3], 1, x.run(1));
+        }
+        GraphCompare y = withNets(3);
+        y.swap(5, 0, 1);
+        add(y, 0, 5, 4.9e-324, 0, 1);
+        add(y, 0, 5, 4.9e-324, 1, 2);
+        y.join(0, 1);
+        add(y, 0, 5, 3.0, 0, 2);
+        y.join(0, 0);
+        add(y, 1, 5, 3.0, 0, 2);
+        Check.same("8: 0 and 3 are 3", 1, y.run(1));
+        Check.same("8: 0 before 5", 1, withNothingInSeries(0).run(1));
+        Check.same("8: 0 behind 5", 1, withNothingInSeries(1).run(1));
+    }
+
+    /** Two next to nothing come to 0, with 5.0 in series to 0 again, beside 3.0 to 3.0. */
+    private static GraphCompare withNothingInSeries(int tiny) {
+        GraphCompare x = withNets(4);
+        x.swap(5, 0, 1);
+        for (int i = 0; i < 3; i++) {
+            x.device(0, 5, i == tiny || i == tiny + 1 ? 4.9e-324 : 5.0);
+        }
+        x.pin(0, tiny, 0, 0);
+        x.pin(0, tiny, 1, 1);
+        x.pin(0, tiny + 1, 0, 1);
+        x.pin(0, tiny + 1, 1, 2);
+        Check.same("8: two are left", 2, x.join(0, 1));
+        int other = tiny == 0 ? 2 : 0;
+        x.pin(0, other, 0, 2);
+        x.pin(0, other, 1, 3);
+        Check.same("8: one is left", 1, x.join(0, 1));
+        add(x, 0, 5, 3.0, 0, 3);
+        Check.same("8: and is still one", 1, x.join(0, 0));
+        add(x, 1, 5, 3.0, 0, 3);
+        return x;
     }
 
     private static void wrongJoins() {
@@ -384,6 +439,50 @@ public final class PromisesTest {
         Check.same("9: thirty at once", 1, y.run(30));
         Check.same("9: the last", 29, y.match(1, 29));
         Check.same("9: too few", 2, y.run(29));
+    }
+
+    private static void fullSides() {
+        GraphCompare x = withNets(40);
+        // All pins of thirty devices are on the last net, and all other nets are ports.
+        for (int side = 0; side < 2; side++) {
+            for (int i = 0; i < 30; i++) {
+                add(x, side, 7, 1.0, 39, 39, 39, 39);
+            }
+            for (int net = 0; net < 39; net++) {
+                x.port(side, net, side == 0 ? net : 38 - net);
+            }
+        }
+        Check.same("9: all pins on one net", 1, x.run(30));
+        Check.same("9: the last net", 39, x.netMatch(39));
+        Check.same("9: a port", 38, x.netMatch(0));
+        Check.same("13: no round", 0, x.rounds());
+        Check.same("14: all are like", 30, x.tried());
+        for (int i = 0; i < 30; i++) {
+            x.pin(0, i, 3, i);
+            x.pin(1, 29 - i, 3, 38 - i);
+        }
+        Check.same("9: told by ports", 1, x.run(30));
+        Check.same("9: the first with the last", 29, x.match(0, 0));
+        Check.same("13: one round", 1, x.rounds());
+        Check.same("14: none is like another", 0, x.tried());
+        Check.same("15: a match", true, x.tested());
+    }
+
+    /** Chains as long as can be: there are the most rounds, and each one counts. */
+    private static void longChains() {
+        GraphCompare x = withNets(31);
+        for (int i = 0; i < 30; i++) {
+            add(x, 0, 0, 1.0, i, i + 1);
+            add(x, 1, 0, 1.0, 30 - i, 29 - i);
+        }
+        Check.same("13: a long chain", 1, x.run(30));
+        Check.same("13: its rounds", 30, x.rounds());
+        Check.same("11: its end", 0, x.netMatch(30));
+        Check.same("14: no two are like", 0, x.tried());
+        x.swap(0, 0, 1);
+        Check.same("9: from the other end", 1, x.run(2000));
+        Check.same("13: its rounds from both ends", 29, x.rounds());
+        Check.same("14: each with its like", 30, x.tried());
     }
 
     private static void matches() {
