@@ -31,6 +31,9 @@ public final class ModelTest {
         for (int seed = 0; seed < 400; seed++) {
             new ModelTest("large " + seed, seed).compareCopies(8 + seed % 23, 4 + seed % 37, answers);
         }
+        for (int seed = 0; seed < 2000; seed++) {
+            new ModelTest("cover " + seed, seed).compareCovers(2 + seed % 2, answers);
+        }
         for (int seed = 0; seed < 60; seed++) {
             new ModelTest("ring " + seed, seed).compareRings(3 + seed % 28);
         }
@@ -257,6 +260,49 @@ public final class ModelTest {
             case 4: pin(side, below(devices), below(4), below(nets)); break;
             case 5: share(below(kinds), below(3) / 2.0); break;
             default: device(side, below(kinds), 8 - below(2)); break;
+        }
+    }
+
+    /**
+     * Both sides are made of so many copies of one small design, whose pins go to their nets' own
+     * copies or across to others: rounds can't tell the sides apart, so it is for the search.
+     */
+    private void compareCovers(int copies, int[] answers) {
+        int devices = 1 + below(4);
+        int nets = 1 + below(3);
+        makeNets(nets * copies);
+        int[][] netOf = new int[devices][4];
+        int[] kindOf = new int[devices];
+        for (int d = 0; d < devices; d++) {
+            kindOf[d] = below(2);
+            for (int k = 0; k < 4; k++) {
+                netOf[d][k] = below(5) == 0 ? -1 : below(nets);
+            }
+        }
+        for (int i = below(4); i > 0; i--) {
+            swap(below(2), below(4), below(4));
+        }
+        for (int side = 0; side < 2; side++) {
+            for (int d = 0; d < devices; d++) {
+                placeCopies(side, copies, kindOf[d], netOf[d]);
+            }
+        }
+        compare(answers);
+        join(0, below(2));
+        tested();
+        compare(answers);
+    }
+
+    private void placeCopies(int side, int copies, int kind, int[] nets) {
+        int first = model.sides[side].devices.size();
+        for (int i = 0; i < copies; i++) {
+            device(side, kind, 8);
+        }
+        for (int k = 0; k < 4; k++) {
+            List<Integer> across = shuffled(copies);
+            for (int i = 0; i < copies && nets[k] != -1; i++) {
+                pin(side, first + i, k, nets[k] * copies + across.get(i));
+            }
         }
     }
 

@@ -33,39 +33,6 @@ public final class PromisesTest {
         Check.finish("PromisesTest");
     }
 
-    private static GraphCompare withNets(int count) {
-        GraphCompare x = new GraphCompare();
-        for (int i = 0; i < count; i++) {
-            x.net(0, 0);
-            x.net(1, 0);
-        }
-        return x;
-    }
-
-    /** A device with its pins on these nets: its number. */
-    private static int add(GraphCompare x, int side, int kind, double size, int... nets) {
-        int d = x.device(side, kind, size);
-        for (int k = 0; k < nets.length; k++) {
-            x.pin(side, d, k, nets[k]);
-        }
-        return d;
-    }
-
-    /** The rows of all differences, as one text. */
-    private static String allDifferences(GraphCompare x) {
-        StringBuilder text = new StringBuilder();
-        for (int k = 0; k < 100; k++) {
-            final int row = k;
-            if (Check.answer(() -> x.differs(row, 0)).startsWith("Index")) {
-                break;
-            }
-            for (int what = 0; what < 4; what++) {
-                text.append(x.differs(k, what)).append(what < 3 ? "," : ";");
-            }
-        }
-        return text.toString();
-    }
-
     private static void newObject() {
         GraphCompare x = new GraphCompare();
         Check.same("1: NONE", -1, GraphCompare.NONE);
@@ -117,7 +84,7 @@ public final class PromisesTest {
     }
 
     private static void pins() {
-        GraphCompare x = withNets(2);
+        GraphCompare x = Build.withNets(2);
         x.device(0, 0, 1.0);
         x.device(0, 0, 1.0);
         Check.same("4: none to none", false, x.pin(0, 0, 0, NONE));
@@ -139,9 +106,9 @@ public final class PromisesTest {
     }
 
     private static void swaps() {
-        GraphCompare x = withNets(4);
-        add(x, 0, 2, 1.0, 0, 1, 2, 3);
-        add(x, 1, 2, 1.0, 0, 1, 2, 3);
+        GraphCompare x = Build.withNets(4);
+        Build.add(x, 0, 2, 1.0, 0, 1, 2, 3);
+        Build.add(x, 1, 2, 1.0, 0, 1, 2, 3);
         x.port(0, 0, 0);
         x.port(1, 1, 0);
         Check.same("5: pins differ", 0, x.run(2000));
@@ -186,7 +153,7 @@ public final class PromisesTest {
     }
 
     private static void ports() {
-        GraphCompare x = withNets(3);
+        GraphCompare x = Build.withNets(3);
         Check.same("7: none before", true, x.port(0, 0, 5));
         Check.same("7: the same again", false, x.port(0, 0, 5));
         Check.badArgument("7: name of another", () -> x.port(0, 1, 5));
@@ -206,51 +173,51 @@ public final class PromisesTest {
     }
 
     private static void parallelJoins() {
-        GraphCompare x = withNets(3);
-        add(x, 0, 0, 1.0, 0, 1);
-        add(x, 0, 0, 2.0, 1, 0);
-        add(x, 0, 1, 4.0, 0, 1);
-        add(x, 0, 0, 8.0, 0, 1);
-        add(x, 0, 0, 16.0, 0, 0);
+        GraphCompare x = Build.withNets(3);
+        Build.add(x, 0, 0, 1.0, 0, 1);
+        Build.add(x, 0, 0, 2.0, 1, 0);
+        Build.add(x, 0, 1, 4.0, 0, 1);
+        Build.add(x, 0, 0, 8.0, 0, 1);
+        Build.add(x, 0, 0, 16.0, 0, 0);
         Check.same("8: 0 and 3 are joined", 4, x.join(0, 0));
         Check.outOfBounds("8: the greater one is gone", () -> x.pin(0, 3, 0, 0));
         x.swap(0, 0, 1);
         Check.same("8: by groups", 3, x.join(0, 0));
         Check.outOfBounds("8: 1 is gone", () -> x.pin(0, 1, 0, 0));
         Check.same("8: each as often", 3, x.join(0, 0));
-        add(x, 1, 0, 11.0, 0, 1);
-        add(x, 1, 1, 4.0, 0, 1);
-        add(x, 1, 0, 16.0, 0, 0);
+        Build.add(x, 1, 0, 11.0, 0, 1);
+        Build.add(x, 1, 1, 4.0, 0, 1);
+        Build.add(x, 1, 0, 16.0, 0, 0);
         Check.same("8: sizes are sums", 1, x.run(2000));
-        GraphCompare y = withNets(1);
+        GraphCompare y = Build.withNets(1);
         y.device(0, 4, 0.5);
         y.device(0, 4, 0.5);
         y.device(0, 4, 1000000.0);
-        add(y, 0, 4, 1.0, NONE, 0);
+        Build.add(y, 0, 4, 1.0, NONE, 0);
         Check.same("8: pins on none", 2, y.join(0, 0));
         Check.same("8: the other side", 0, y.join(1, 0));
     }
 
     private static void seriesJoins() {
-        GraphCompare x = withNets(6);
-        add(x, 0, 0, 2.0, 0, 1);
-        add(x, 0, 0, 2.0, 2, 1);
-        add(x, 0, 0, 1.0, 3, 2);
+        GraphCompare x = Build.withNets(6);
+        Build.add(x, 0, 0, 2.0, 0, 1);
+        Build.add(x, 0, 0, 2.0, 2, 1);
+        Build.add(x, 0, 0, 1.0, 3, 2);
         Check.same("8: pins of two groups", 3, x.join(0, 1));
         x.swap(0, 1, 0);
         x.port(0, 2, 0);
         Check.same("8: not at a port", 2, x.join(0, 1));
-        add(x, 1, 0, 1.0, 0, 2);
-        add(x, 1, 0, 1.0, 2, 3);
+        Build.add(x, 1, 0, 1.0, 0, 2);
+        Build.add(x, 1, 0, 1.0, 2, 3);
         x.port(1, 2, 0);
         Check.same("8: halves of 2", 1, x.run(2000));
         Check.same("8: the pin came to net 2", 2, x.netMatch(2));
         Check.same("8: net 1 is not used", NONE, x.netMatch(1));
-        GraphCompare y = withNets(4);
+        GraphCompare y = Build.withNets(4);
         y.swap(0, 0, 1);
-        add(y, 0, 0, 1.0, 0, 1);
-        add(y, 0, 0, 1.0, 1, 2);
-        add(y, 0, 1, 1.0, 1);
+        Build.add(y, 0, 0, 1.0, 0, 1);
+        Build.add(y, 0, 0, 1.0, 1, 2);
+        Build.add(y, 0, 1, 1.0, 1);
         Check.same("8: another one on the net", 3, y.join(0, 1));
         y.pin(0, 2, 0, NONE);
         y.pin(0, 1, 2, 3);
@@ -269,29 +236,29 @@ public final class PromisesTest {
     }
 
     private static void seriesChains() {
-        GraphCompare x = withNets(40);
+        GraphCompare x = Build.withNets(40);
         x.swap(0, 0, 1);
         for (int i = 0; i < 30; i++) {
-            add(x, 0, 0, 30.0, i, i + 1);
+            Build.add(x, 0, 0, 30.0, i, i + 1);
         }
         Check.same("8: a chain becomes one", 1, x.join(0, 1));
         Check.same("8: it begins at 0", false, x.pin(0, 0, 0, 0));
         Check.same("8: it ends at 30", false, x.pin(0, 0, 1, 30));
-        GraphCompare y = withNets(4);
+        GraphCompare y = Build.withNets(4);
         y.swap(0, 0, 1);
-        add(y, 0, 0, 1.0, 0, 1);
-        add(y, 0, 0, 3.0, 2, 3);
-        add(y, 0, 0, 7.0, 2, 1);
+        Build.add(y, 0, 0, 1.0, 0, 1);
+        Build.add(y, 0, 0, 3.0, 2, 3);
+        Build.add(y, 0, 0, 7.0, 2, 1);
         y.join(0, 1);
         double step = 1.0 / (1.0 / 1.0 + 1.0 / 7.0);
-        add(y, 1, 0, 1.0 / (1.0 / step + 1.0 / 3.0), 0, 3);
+        Build.add(y, 1, 0, 1.0 / (1.0 / step + 1.0 / 3.0), 0, 3);
         Check.same("8: the least pair first, as doubles", 1, y.run(2000));
-        GraphCompare z = withNets(4);
+        GraphCompare z = Build.withNets(4);
         z.swap(0, 0, 1);
         for (int side = 0; side < 2; side++) {
-            add(z, side, 0, 4.9e-324, 0, 1);
-            add(z, side, 0, 4.9e-324, 1, 2);
-            add(z, side, 0, 1.0, 2, 3);
+            Build.add(z, side, 0, 4.9e-324, 0, 1);
+            Build.add(z, side, 0, 4.9e-324, 1, 2);
+            Build.add(z, side, 0, 1.0, 2, 3);
             Check.same("8: next to nothing", 1, z.join(side, 1));
         }
         Check.same("8: sizes of 0 agree", 1, z.run(1));
@@ -307,22 +274,22 @@ public final class PromisesTest {
             {0, 400000.0, 600000.0, 1000000.0},
         };
         for (double[] row : rows) {
-            GraphCompare x = withNets(3);
+            GraphCompare x = Build.withNets(3);
             x.swap(5, 0, 1);
-            add(x, 0, 5, row[1], 0, 1);
-            add(x, 0, 5, row[2], 1, row[0] == 0 ? 0 : 2);
-            add(x, 1, 5, row[3], 0, 1);
+            Build.add(x, 0, 5, row[1], 0, 1);
+            Build.add(x, 0, 5, row[2], 1, row[0] == 0 ? 0 : 2);
+            Build.add(x, 1, 5, row[3], 0, 1);
             Check.same("8: two become one", 1, x.join(0, (int) row[0]));
             Check.same("8: of size " + row[3], 1, x.run(1));
         }
-        GraphCompare y = withNets(3);
+        GraphCompare y = Build.withNets(3);
         y.swap(5, 0, 1);
-        add(y, 0, 5, 4.9e-324, 0, 1);
-        add(y, 0, 5, 4.9e-324, 1, 2);
+        Build.add(y, 0, 5, 4.9e-324, 0, 1);
+        Build.add(y, 0, 5, 4.9e-324, 1, 2);
         y.join(0, 1);
-        add(y, 0, 5, 3.0, 0, 2);
+        Build.add(y, 0, 5, 3.0, 0, 2);
         y.join(0, 0);
-        add(y, 1, 5, 3.0, 0, 2);
+        Build.add(y, 1, 5, 3.0, 0, 2);
         Check.same("8: 0 and 3 are 3", 1, y.run(1));
         Check.same("8: 0 before 5", 1, withNothingInSeries(0).run(1));
         Check.same("8: 0 behind 5", 1, withNothingInSeries(1).run(1));
@@ -330,7 +297,7 @@ public final class PromisesTest {
 
     /** Two next to nothing come to 0, with 5.0 in series to 0 again, beside 3.0 to 3.0. */
     private static GraphCompare withNothingInSeries(int tiny) {
-        GraphCompare x = withNets(4);
+        GraphCompare x = Build.withNets(4);
         x.swap(5, 0, 1);
         for (int i = 0; i < 3; i++) {
             x.device(0, 5, i == tiny || i == tiny + 1 ? 4.9e-324 : 5.0);
@@ -344,9 +311,9 @@ public final class PromisesTest {
         x.pin(0, other, 0, 2);
         x.pin(0, other, 1, 3);
         Check.same("8: one is left", 1, x.join(0, 1));
-        add(x, 0, 5, 3.0, 0, 3);
+        Build.add(x, 0, 5, 3.0, 0, 3);
         Check.same("8: and is still one", 1, x.join(0, 0));
-        add(x, 1, 5, 3.0, 0, 3);
+        Build.add(x, 1, 5, 3.0, 0, 3);
         return x;
     }
 
@@ -359,15 +326,15 @@ public final class PromisesTest {
     }
 
     private static void runs() {
-        GraphCompare x = withNets(3);
+        GraphCompare x = Build.withNets(3);
         Check.same("9: empty", 1, x.run(0));
         Check.badArgument("9: -1", () -> x.run(-1));
         Check.badArgument("9: 2001", () -> x.run(2001));
         Check.badArgument("9: a long that wraps to 0", () -> x.run(1L << 32));
         Check.badArgument("9: least long", () -> x.run(Long.MIN_VALUE));
-        add(x, 0, 0, 1.0, 0);
+        Build.add(x, 0, 0, 1.0, 0);
         Check.same("9: nothing is tried", 0, x.run(0));
-        add(x, 1, 0, 1.0, NONE);
+        Build.add(x, 1, 0, 1.0, NONE);
         Check.same("9: other nets: nothing is tried", 0, x.run(0));
         x.pin(1, 0, 0, 2);
         x.port(0, 0, 1);
@@ -387,14 +354,14 @@ public final class PromisesTest {
     }
 
     private static void searches() {
-        GraphCompare x = withNets(4);
+        GraphCompare x = Build.withNets(4);
         // A square of like devices with like pins on each side, its corners numbered otherwise.
         x.swap(0, 0, 1);
         int[][] first = {{0, 1}, {1, 2}, {2, 3}, {3, 0}};
         int[][] second = {{0, 2}, {1, 3}, {2, 1}, {3, 0}};
         for (int i = 0; i < 4; i++) {
-            add(x, 0, 0, 1.0, first[i]);
-            add(x, 1, 0, 1.0, second[i]);
+            Build.add(x, 0, 0, 1.0, first[i]);
+            Build.add(x, 1, 0, 1.0, second[i]);
         }
         // 0 with 0; 1 not with 1 (no net in common with 0), but with 2; 2 with 1; 3 with 3.
         Check.same("9: five tries do", 1, x.run(5));
@@ -406,7 +373,7 @@ public final class PromisesTest {
             Check.same("9: device " + i, devicePairs[i], x.match(0, i));
             Check.same("9: net " + i, netPairs[i], x.netMatch(i));
         }
-        GraphCompare y = withNets(2);
+        GraphCompare y = Build.withNets(2);
         // Sizes rule the first way out: device 0 has to go on to its next one.
         y.device(0, 0, 1.0);
         y.device(0, 0, 2.0);
@@ -428,9 +395,9 @@ public final class PromisesTest {
         // Four are paired in each order, and the last one never fits: 5 + 5*4 + 5*4*3 + 5! + 5!.
         Check.same("9: all are tried", 0, x.run(325));
         Check.same("9: one less", 2, x.run(324));
-        Check.same("9: sort 5", "", allDifferences(x));
+        Check.same("9: sort 5", "", Build.allDifferences(x));
         x.run(325);
-        Check.same("9: sort 5 again", "5,0,0,0;", allDifferences(x));
+        Check.same("9: sort 5 again", "5,0,0,0;", Build.allDifferences(x));
         GraphCompare y = new GraphCompare();
         for (int i = 0; i < 30; i++) {
             y.device(0, 0, 1.0);
@@ -442,11 +409,11 @@ public final class PromisesTest {
     }
 
     private static void fullSides() {
-        GraphCompare x = withNets(40);
+        GraphCompare x = Build.withNets(40);
         // All pins of thirty devices are on the last net, and all other nets are ports.
         for (int side = 0; side < 2; side++) {
             for (int i = 0; i < 30; i++) {
-                add(x, side, 7, 1.0, 39, 39, 39, 39);
+                Build.add(x, side, 7, 1.0, 39, 39, 39, 39);
             }
             for (int net = 0; net < 39; net++) {
                 x.port(side, net, side == 0 ? net : 38 - net);
@@ -470,10 +437,10 @@ public final class PromisesTest {
 
     /** Chains as long as can be: there are the most rounds, and each one counts. */
     private static void longChains() {
-        GraphCompare x = withNets(31);
+        GraphCompare x = Build.withNets(31);
         for (int i = 0; i < 30; i++) {
-            add(x, 0, 0, 1.0, i, i + 1);
-            add(x, 1, 0, 1.0, 30 - i, 29 - i);
+            Build.add(x, 0, 0, 1.0, i, i + 1);
+            Build.add(x, 1, 0, 1.0, 30 - i, 29 - i);
         }
         Check.same("13: a long chain", 1, x.run(30));
         Check.same("13: its rounds", 30, x.rounds());
@@ -486,11 +453,11 @@ public final class PromisesTest {
     }
 
     private static void matches() {
-        GraphCompare x = withNets(2);
-        add(x, 0, 0, 1.0, 0);
-        add(x, 0, 0, 1.0, 1, 1);
-        add(x, 1, 0, 1.0, 0, 0);
-        add(x, 1, 0, 1.0, 1);
+        GraphCompare x = Build.withNets(2);
+        Build.add(x, 0, 0, 1.0, 0);
+        Build.add(x, 0, 0, 1.0, 1, 1);
+        Build.add(x, 1, 0, 1.0, 0, 0);
+        Build.add(x, 1, 0, 1.0, 1);
         Check.same("10: not compared", NONE, x.match(0, 0));
         x.run(2000);
         Check.same("10: 0", 1, x.match(0, 0));
@@ -512,10 +479,10 @@ public final class PromisesTest {
     }
 
     private static void netMatches() {
-        GraphCompare x = withNets(3);
+        GraphCompare x = Build.withNets(3);
         x.net(0, 0);
-        add(x, 0, 0, 1.0, 0, 2);
-        add(x, 1, 0, 1.0, 2, 1);
+        Build.add(x, 0, 0, 1.0, 0, 2);
+        Build.add(x, 1, 0, 1.0, 2, 1);
         Check.same("11: not compared", NONE, x.netMatch(0));
         x.run(2000);
         Check.same("11: 0", 2, x.netMatch(0));
@@ -529,11 +496,11 @@ public final class PromisesTest {
         Check.same("11: not used any more", 2, x.netMatch(0));
         x.run(0);
         Check.same("11: behind 2", NONE, x.netMatch(2));
-        GraphCompare y = withNets(3);
+        GraphCompare y = Build.withNets(3);
         y.swap(0, 0, 1);
         y.swap(0, 1, 2);
-        add(y, 0, 0, 1.0, 2, 0, 1);
-        add(y, 1, 0, 1.0, 1, 2, 0);
+        Build.add(y, 0, 0, 1.0, 2, 0, 1);
+        Build.add(y, 1, 0, 1.0, 1, 2, 0);
         y.run(2000);
         for (int net = 0; net < 3; net++) {
             Check.same("11: like nets, the least first", net, y.netMatch(net));
@@ -541,25 +508,25 @@ public final class PromisesTest {
     }
 
     private static void differences() {
-        GraphCompare x = withNets(4);
-        add(x, 0, 3, 1.0, 0);
-        add(x, 0, 1, 1.0, 0);
-        add(x, 0, 1, 1.0, 1);
-        add(x, 1, 3, 1.0, 0);
-        add(x, 1, 7, 1.0, 0);
+        GraphCompare x = Build.withNets(4);
+        Build.add(x, 0, 3, 1.0, 0);
+        Build.add(x, 0, 1, 1.0, 0);
+        Build.add(x, 0, 1, 1.0, 1);
+        Build.add(x, 1, 3, 1.0, 0);
+        Build.add(x, 1, 7, 1.0, 0);
         x.port(0, 2, 9);
         x.port(0, 3, 4);
         x.port(1, 0, 9);
         x.port(1, 3, 2);
         Check.same("12: ", 0, x.run(2000));
-        Check.same("12: all", "1,1,2,0;1,7,0,1;2,0,4,2;3,2,0,1;3,4,1,0;", allDifferences(x));
+        Check.same("12: all", "1,1,2,0;1,7,0,1;2,0,4,2;3,2,0,1;3,4,1,0;", Build.allDifferences(x));
         Check.outOfBounds("12: what 4", () -> x.differs(0, 4));
         Check.outOfBounds("12: what -1", () -> x.differs(0, -1));
         Check.outOfBounds("12: k -1", () -> x.differs(-1, 0));
         Check.outOfBounds("12: k 5", () -> x.differs(5, 0));
         x.port(0, 0, 2);
-        Check.same("12: they stay", 5, allDifferences(x).split(";").length);
-        GraphCompare y = withNets(40);
+        Check.same("12: they stay", 5, Build.allDifferences(x).split(";").length);
+        GraphCompare y = Build.withNets(40);
         for (int net = 0; net < 40; net++) {
             y.port(0, net, 2 * net);
             y.port(1, net, 2 * net + 1);
@@ -569,39 +536,40 @@ public final class PromisesTest {
             y.device(1, 4 + i % 4, 1.0);
         }
         y.run(0);
-        Check.same("12: as many as there can be", 88, allDifferences(y).split(";").length);
+        Check.same("12: as many as there can be", 88, Build.allDifferences(y).split(";").length);
         Check.same("12: the last name", 79, y.differs(87, 1));
         y.run(0);
-        Check.same("12: listed anew", 88, allDifferences(y).split(";").length);
+        Check.same("12: listed anew", 88, Build.allDifferences(y).split(";").length);
     }
 
     private static void differencesOfClasses() {
-        GraphCompare x = withNets(6);
+        GraphCompare x = Build.withNets(6);
         // Side 0 has two that share a net and one alone, side 1 three alone; a spare net is a port.
-        add(x, 0, 0, 1.0, 0);
-        add(x, 0, 0, 1.0, 1);
-        add(x, 0, 0, 1.0, 0);
+        Build.add(x, 0, 0, 1.0, 0);
+        Build.add(x, 0, 0, 1.0, 1);
+        Build.add(x, 0, 0, 1.0, 0);
         x.port(0, 2, 0);
-        add(x, 1, 0, 1.0, 2);
-        add(x, 1, 0, 1.0, 1);
-        add(x, 1, 0, 1.0, 2);
+        Build.add(x, 1, 0, 1.0, 2);
+        Build.add(x, 1, 0, 1.0, 1);
+        Build.add(x, 1, 0, 1.0, 2);
         x.port(1, 0, 0);
         Check.same("12: like but for numbers", 1, x.run(2000));
-        Check.same("12: none of a match", "", allDifferences(x));
+        Check.same("12: none of a match", "", Build.allDifferences(x));
         x.pin(1, 0, 0, 1);
         x.pin(1, 1, 1, 2);
         // Side 1 now: pin 0 of 0 on net 1 with pin 0 of 1, whose pin 1 is on net 2 with 2's pin 0.
         Check.same("12: classes differ", 0, x.run(2000));
-        Check.same("12: by devices", "4,0,2,0;4,1,1,0;4,0,0,1;4,1,0,1;4,2,0,1;", allDifferences(x));
+        Check.same("12: by devices", "4,0,2,0;4,1,1,0;4,0,0,1;4,1,0,1;4,2,0,1;",
+            Build.allDifferences(x));
         Check.same("12: an empty run behind it", 2, withOnePair().run(0));
         GraphCompare y = withOnePair();
         y.device(0, 0, 3.0);
         y.device(1, 0, 4.0);
         Check.same("12: sizes", 0, y.run(2000));
-        Check.same("12: of the whole", "5,0,0,0;", allDifferences(y));
+        Check.same("12: of the whole", "5,0,0,0;", Build.allDifferences(y));
         Check.same("12: what of 5", 0, y.differs(0, 3));
         y.run(0);
-        Check.same("12: none behind 2", "", allDifferences(y));
+        Check.same("12: none behind 2", "", Build.allDifferences(y));
     }
 
     private static GraphCompare withOnePair() {
@@ -612,11 +580,11 @@ public final class PromisesTest {
     }
 
     private static void rounds() {
-        GraphCompare x = withNets(40);
+        GraphCompare x = Build.withNets(40);
         // A chain: each round tells the next ones from both ends apart, of devices and of nets.
         for (int side = 0; side < 2; side++) {
             for (int i = 0; i < 5; i++) {
-                add(x, side, 0, 1.0, i, i + 1);
+                Build.add(x, side, 0, 1.0, i, i + 1);
             }
         }
         Check.same("13: like", 1, x.run(2000));
@@ -641,12 +609,12 @@ public final class PromisesTest {
     }
 
     private static void tried() {
-        GraphCompare x = withNets(6);
+        GraphCompare x = Build.withNets(6);
         for (int side = 0; side < 2; side++) {
-            add(x, side, 0, 1.0, 0, 1);
-            add(x, side, 0, 1.0, 2, 3);
-            add(x, side, 0, 1.0, 4, 4);
-            add(x, side, 1, 1.0, 5);
+            Build.add(x, side, 0, 1.0, 0, 1);
+            Build.add(x, side, 0, 1.0, 2, 3);
+            Build.add(x, side, 0, 1.0, 4, 4);
+            Build.add(x, side, 1, 1.0, 5);
         }
         Check.same("14: none yet", 0, x.tried());
         x.run(2000);
@@ -674,13 +642,13 @@ public final class PromisesTest {
     }
 
     private static void testedPairs() {
-        GraphCompare x = withNets(3);
+        GraphCompare x = Build.withNets(3);
         Check.same("15: nothing kept", false, x.tested());
         x.run(0);
         Check.same("15: empty", true, x.tested());
-        add(x, 0, 0, 8.0, 0, 1);
+        Build.add(x, 0, 0, 8.0, 0, 1);
         Check.same("15: a new device", false, x.tested());
-        add(x, 1, 0, 8.0, 2, 1);
+        Build.add(x, 1, 0, 8.0, 2, 1);
         Check.same("15: not paired", false, x.tested());
         x.run(2000);
         Check.same("15: found", true, x.tested());
@@ -701,9 +669,9 @@ public final class PromisesTest {
         Check.same("15: a port of side 1", false, x.tested());
         x.run(0);
         Check.same("15: none is kept", false, x.tested());
-        GraphCompare y = withNets(1);
-        add(y, 0, 0, 8.0, 0);
-        add(y, 1, 0, 4.0, 0);
+        GraphCompare y = Build.withNets(1);
+        Build.add(y, 0, 0, 8.0, 0);
+        Build.add(y, 1, 0, 4.0, 0);
         y.share(0, 0.5);
         y.run(2000);
         y.share(0, 0.49);
@@ -717,11 +685,11 @@ public final class PromisesTest {
     }
 
     private static void testedAfterJoins() {
-        GraphCompare x = withNets(3);
+        GraphCompare x = Build.withNets(3);
         x.swap(0, 0, 1);
         for (int side = 0; side < 2; side++) {
-            add(x, side, 0, 2.0, 0, 1);
-            add(x, side, 0, 2.0, 1, 2);
+            Build.add(x, side, 0, 2.0, 0, 1);
+            Build.add(x, side, 0, 2.0, 1, 2);
         }
         x.run(2000);
         Check.same("15: before", true, x.tested());
@@ -738,9 +706,9 @@ public final class PromisesTest {
     }
 
     private static void throwingChangesNothing() {
-        GraphCompare x = withNets(2);
-        add(x, 0, 0, 1.0, 0);
-        add(x, 1, 0, 1.0, 1);
+        GraphCompare x = Build.withNets(2);
+        Build.add(x, 0, 0, 1.0, 0);
+        Build.add(x, 1, 0, 1.0, 1);
         x.run(2000);
         Check.badArgument("a run that throws", () -> x.run(2001));
         Check.badArgument("a share that throws", () -> x.share(0, 2.0));
