@@ -39,7 +39,6 @@ public final class DesignEdgesTest {
         portNames();
         portNamesOfASide();
         portInPlaceOfTheOneBefore();
-        joinRules();
         Check.finish("DesignEdgesTest");
     }
 
@@ -500,19 +499,5 @@ public final class DesignEdgesTest {
         x.port(1, 1, 4);
         Check.same("7: the latest names count", 1, x.run(0));
         Check.same("7: for both", "1 0", Build.netPairs(x, 2));
-    }
-
-    // "there is no such rule"
-    private static void joinRules() {
-        GraphCompare x = new GraphCompare();
-        for (int i = 0; i < 3; i++) {
-            x.device(0, 0, 1.0);
-        }
-        for (int wrong : new int[] {-1, 2, LEAST, MOST}) {
-            Check.badArgument("8: rule " + wrong, () -> x.join(0, wrong));
-            Check.badArgument("8: of an empty side", () -> x.join(1, wrong));
-        }
-        Check.same("8: rule 1", 3, x.join(0, 1));
-        Check.same("8: rule 0", 1, x.join(0, 0));
     }
 }

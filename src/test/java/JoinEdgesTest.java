@@ -9,6 +9,7 @@ public final class JoinEdgesTest {
     }
 
     public static void main(String[] args) {
+        joinRules();
         howManyAreNotGone();
         devicesOfOneKind();
         devicesOfOneSide();
@@ -45,6 +46,20 @@ public final class JoinEdgesTest {
         GraphCompare x = Build.withNets(6);
         x.swap(0, 0, 1);
         return x;
+    }
+
+    // "there is no such rule"
+    private static void joinRules() {
+        GraphCompare x = new GraphCompare();
+        for (int i = 0; i < 3; i++) {
+            x.device(0, 0, 1.0);
+        }
+        for (int wrong : new int[] {-1, 2, Integer.MIN_VALUE, Integer.MAX_VALUE}) {
+            Check.badArgument("8: rule " + wrong, () -> x.join(0, wrong));
+            Check.badArgument("8: of an empty side", () -> x.join(1, wrong));
+        }
+        Check.same("8: rule 1", 3, x.join(0, 1));
+        Check.same("8: rule 0", 1, x.join(0, 0));
     }
 
     // "Devices of a side are joined by a rule: how many are not gone then."
